@@ -501,7 +501,6 @@ public final class HouseManner {
             System.arraycopy(source, 0, bytes, 0, length);
             hand = ofHand;
             count = 0;
-            statements = 0;
         }
 
         int byteAt(int place) {
@@ -925,7 +924,6 @@ public final class HouseManner {
     private static final class Tally {
         private final int[] wrongOfAll = new int[TOLD_CHOICES];
         private final int[] wrongOfTwo = new int[TESTS * TESTS * TOLD_CHOICES];
-        private Habit best;
         private int testPrice;
         private int exceptionPrice;
 
@@ -980,23 +978,22 @@ public final class HouseManner {
          * Rows of fewer TESTS are tried first, then those that are first in order; none whose
          * TESTS alone cost as much as the best one.
          */
-        void search(Habit into, int priceOfTest, int priceOfException) {
-            best = into;
+        void search(Habit best, int priceOfTest, int priceOfException) {
             testPrice = priceOfTest;
             exceptionPrice = priceOfException;
-            weigh(0, NONE, NONE);
+            weigh(best, 0, NONE, NONE);
             for (int t = 0; t < TESTS && testPrice < best.cost; t++) {
-                weigh(1, t, NONE);
+                weigh(best, 1, t, NONE);
             }
             for (int t = 0; t < TESTS && 2 * testPrice < best.cost; t++) {
-                weighTwo(t);
+                weighTwo(best, t);
             }
         }
 
-        private void weighTwo(int t) {
+        private void weighTwo(Habit best, int t) {
             for (int u = 0; u < TESTS; u++) {
                 if (u != t) {
-                    weigh(2, t, u);
+                    weigh(best, 2, t, u);
                 }
             }
         }
@@ -1005,7 +1002,7 @@ public final class HouseManner {
          * Each place of the row decides GAPS of its own, so its CHOICE is found for itself; what
          * the first TEST's is doesn't hang on the second one, so the rows come in order.
          */
-        private void weigh(int tests, int t, int u) {
+        private void weigh(Habit best, int tests, int t, int u) {
             int firstChoice = 0;
             int secondChoice = 0;
             int last = 0;

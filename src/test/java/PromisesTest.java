@@ -280,6 +280,7 @@ public final class PromisesTest {
         gapsAre("if a{\n  b=1;\nc=2;\n}\n  d\n=1;", 1, 1, 0, 2, 0, 0, 0, 3, 0, 0, 0, 2, 3, 2, 0, 0);
         gapsAre("if a{if b{\n   c=1;\n    d\n    =1;\n  }\n}", 1, 1, 0, 0, 1, 0, 3, 0, 0, 0, 2, 2, 0, 0, 2, 2);
         gapsAre("if a\n{ \n}", 1, 1, 2, 3);
+        gapsAre("if a{\n\n b=\n \n1;}", 1, 1, 0, 3, 0, 3, 0, 0);
         gapsAre("if a{b=1;  \nc=1;}", 1, 1, 0, 0, 0, 0, 0, 3, 0, 0, 0, 0);
     }
 
@@ -499,6 +500,8 @@ public final class PromisesTest {
         turned("if aB{while a_c{call call_me(12);}}else{b=1;}", 1,
                 "if aB{while aC{call callMe(12);}}else{b=1;}");
         turned("a_b=aB2;", 1, "aB=aB2;");
+        turned("aZ0=z_Z9;", 0, "a_z0=z_z9;");
+        turned("Z_z=aA;", 1, "zZ=aA;");
         turned("", 0, "");
         turned(" \n", 1, " \n");
         turned("abcdefgH=1;a=aBCDEFGH;", 0, "abcdefg_h=1;a=a_b_c_d_e_f_g_h;");
@@ -587,6 +590,10 @@ public final class PromisesTest {
         due("not twice", false, () -> x.take(5));
         due("lay", 10, () -> x.lay(5));
         due("take again", true, () -> x.take(5));
+        Checks.put(x, 6, 0, "aB=1;" + Checks.repeat(" ", 794));
+        due("turn to 800", 800, () -> x.turn(6, 0));
+        due("take 800", true, () -> x.take(6));
+        due("bytes of 800", 800, () -> x.about(6, 1));
     }
 
     private static void takeOfWhatChanged() {
