@@ -953,25 +953,25 @@ public final class HouseManner {
             }
         }
 
-        private int wrong(int t, int u, int choice) {
+        /** Where both TESTS hold; one that a row doesn't have (NONE) holds nowhere. */
+        private int wrongWhere(int t, int u, int choice) {
+            if (t < 0 || t >= TESTS || u < 0 || u >= TESTS) {
+                return 0;
+            }
             return wrongOfTwo[(t * TESTS + u) * TOLD_CHOICES + choice];
         }
 
-        private int wrongWhere(int t, int choice) {
-            return t == NONE ? 0 : wrong(t, t, choice);
-        }
-
-        private int wrongWhereBoth(int t, int u, int choice) {
-            return t == NONE || u == NONE ? 0 : wrong(t, u, choice);
+        private int wrongByFirst(int t, int choice) {
+            return wrongWhere(t, t, choice);
         }
 
         /** The second TEST decides where it holds and the first one doesn't. */
         private int wrongBySecond(int t, int u, int choice) {
-            return wrongWhere(u, choice) - wrongWhereBoth(t, u, choice);
+            return wrongWhere(u, u, choice) - wrongWhere(t, u, choice);
         }
 
         private int wrongByLast(int t, int u, int choice) {
-            return wrongOfAll[choice] - wrongWhere(t, choice) - wrongBySecond(t, u, choice);
+            return wrongOfAll[choice] - wrongByFirst(t, choice) - wrongBySecond(t, u, choice);
         }
 
         /**
@@ -1007,7 +1007,7 @@ public final class HouseManner {
             int secondChoice = 0;
             int last = 0;
             for (int c = 1; c < TOLD_CHOICES; c++) {
-                if (isCheaper(wrongWhere(t, c), wrongWhere(t, firstChoice))) {
+                if (isCheaper(wrongByFirst(t, c), wrongByFirst(t, firstChoice))) {
                     firstChoice = c;
                 }
                 if (isCheaper(wrongBySecond(t, u, c), wrongBySecond(t, u, secondChoice))) {
@@ -1017,7 +1017,7 @@ public final class HouseManner {
                     last = c;
                 }
             }
-            int exceptions = wrongWhere(t, firstChoice) + wrongBySecond(t, u, secondChoice)
+            int exceptions = wrongByFirst(t, firstChoice) + wrongBySecond(t, u, secondChoice)
                     + wrongByLast(t, u, last);
             int cost = tests * testPrice + exceptions * exceptionPrice;
             if (tests == 0 || cost < best.cost) {

@@ -38,15 +38,6 @@ public final class PromisesTest {
         CHECKS.due(what, want, call);
     }
 
-    private static HouseManner with(String... texts) {
-        HouseManner x = new HouseManner();
-        for (int t = 0; t < texts.length; t++) {
-            int number = t;
-            due("text " + texts[t], 0, () -> Checks.put(x, number, 0, texts[number]));
-        }
-        return x;
-    }
-
     private static void newObject() {
         HouseManner x = new HouseManner();
         for (int i = 0; i < 12; i++) {
@@ -83,7 +74,7 @@ public final class PromisesTest {
     }
 
     private static void text() {
-        HouseManner x = with("a=1;");
+        HouseManner x = CHECKS.with("a=1;");
         due("text(-1", ILLEGAL, () -> x.text(-1, 0, 0));
         due("text(12", ILLEGAL, () -> x.text(12, 0, 0));
         due("hand -1", ILLEGAL, () -> x.text(0, -1, 0));
@@ -106,110 +97,102 @@ public final class PromisesTest {
         due("hand in place", 1, () -> x.about(11, 2));
     }
 
-    private static void faulty(String text, int fault, int place) {
-        HouseManner x = new HouseManner();
-        due("text " + text, fault, () -> Checks.put(x, 0, 0, text));
-        due("fault of " + text, fault, () -> x.fault(0));
-        due("place of " + text, place, () -> x.fault(1));
-        due("there is none of " + text, fault == 0 ? 0 : NO_SUCH, () -> x.about(0, 2));
-    }
-
     private static void faultsOfTokens() {
         String[] fine = {"", " \n ", "a=1;", "if 1{}", "if 1{}else{}", "while(1){}", "call f();",
             "call f(1,(a),b-c<d);", "if a{while b{call c();}d=e;}else{f=g;}h=i;", "ifx=1;", "If=Else;",
             "calls=1;", "a_1=2;", "if a{}if b{}else{}", "a=(b);"};
         for (String text : fine) {
-            faulty(text, 0, -1);
+            CHECKS.faulty(text, 0, -1);
         }
-        faulty("=", 1, 0);
-        faulty(" \n;", 1, 2);
-        faulty("a", 1, 1);
-        faulty("a  ", 1, 3);
-        faulty("a b", 1, 2);
-        faulty("if=1;", 1, 2);
-        faulty("a=if;", 1, 2);
-        faulty("call if();", 1, 5);
-        faulty("call 1();", 1, 5);
-        faulty("call f;", 1, 6);
-        faulty("call f(,);", 1, 7);
-        faulty("call f(1 2);", 1, 9);
-        faulty("call f(1)", 1, 9);
-        faulty("call f(1){}", 1, 9);
-        faulty("call f((1,2));", 1, 9);
-        faulty("call f(1;", 1, 8);
-        faulty("a=();", 1, 3);
-        faulty("a=(1;", 1, 4);
-        faulty("a=1);", 1, 3);
-        faulty("a=1+;", 1, 4);
-        faulty("a=1=2;", 1, 3);
-        faulty("a=1,2;", 1, 3);
-        faulty("a=1{}", 1, 3);
-        faulty("a=call f();", 1, 2);
-        faulty("if{}", 1, 2);
-        faulty("if a;", 1, 4);
-        faulty("if a{", 1, 5);
-        faulty("if a{}}", 1, 6);
-        faulty("}", 1, 0);
-        faulty("else{}", 1, 0);
-        faulty("while a{}else{}", 1, 9);
-        faulty("if a{}else{}else{}", 1, 12);
-        faulty("if a{}b=1;else{}", 1, 10);
-        faulty("if a{else{}}", 1, 5);
-        faulty("if a{if b{}}else{}", 0, -1);
-        faulty("if a{while b{}else{}}", 1, 14);
-        faulty("if a{}else if b{}", 1, 11);
-        faulty("if a{}else", 1, 10);
-        faulty("if a{a=1}", 1, 8);
-        faulty("_a=1;", 1, 0);
-        faulty("a=_;", 1, 2);
-        faulty("a=1_;", 1, 3);
-        faulty("a=1b;", 1, 3);
-        faulty("a=1>2;", 1, 3);
-        faulty("a=1;\t", 1, 4);
-        faulty("a=1;\r\n", 1, 4);
-        faulty("a=1;\u00e9=1;", 1, 4);
-        faulty("a=\u00ff;", 1, 2);
-        faulty("a=1;\u0000", 1, 4);
+        CHECKS.faulty("=", 1, 0);
+        CHECKS.faulty(" \n;", 1, 2);
+        CHECKS.faulty("a", 1, 1);
+        CHECKS.faulty("a  ", 1, 3);
+        CHECKS.faulty("a b", 1, 2);
+        CHECKS.faulty("if=1;", 1, 2);
+        CHECKS.faulty("a=if;", 1, 2);
+        CHECKS.faulty("call if();", 1, 5);
+        CHECKS.faulty("call 1();", 1, 5);
+        CHECKS.faulty("call f;", 1, 6);
+        CHECKS.faulty("call f(,);", 1, 7);
+        CHECKS.faulty("call f(1 2);", 1, 9);
+        CHECKS.faulty("call f(1)", 1, 9);
+        CHECKS.faulty("call f(1){}", 1, 9);
+        CHECKS.faulty("call f((1,2));", 1, 9);
+        CHECKS.faulty("call f(1;", 1, 8);
+        CHECKS.faulty("a=();", 1, 3);
+        CHECKS.faulty("a=(1;", 1, 4);
+        CHECKS.faulty("a=1);", 1, 3);
+        CHECKS.faulty("a=1+;", 1, 4);
+        CHECKS.faulty("a=1=2;", 1, 3);
+        CHECKS.faulty("a=1,2;", 1, 3);
+        CHECKS.faulty("a=1{}", 1, 3);
+        CHECKS.faulty("a=call f();", 1, 2);
+        CHECKS.faulty("if{}", 1, 2);
+        CHECKS.faulty("if a;", 1, 4);
+        CHECKS.faulty("if a{", 1, 5);
+        CHECKS.faulty("if a{}}", 1, 6);
+        CHECKS.faulty("}", 1, 0);
+        CHECKS.faulty("else{}", 1, 0);
+        CHECKS.faulty("while a{}else{}", 1, 9);
+        CHECKS.faulty("if a{}else{}else{}", 1, 12);
+        CHECKS.faulty("if a{}b=1;else{}", 1, 10);
+        CHECKS.faulty("if a{else{}}", 1, 5);
+        CHECKS.faulty("if a{if b{}}else{}", 0, -1);
+        CHECKS.faulty("if a{while b{}else{}}", 1, 14);
+        CHECKS.faulty("if a{}else if b{}", 1, 11);
+        CHECKS.faulty("if a{}else", 1, 10);
+        CHECKS.faulty("if a{a=1}", 1, 8);
+        CHECKS.faulty("_a=1;", 1, 0);
+        CHECKS.faulty("a=_;", 1, 2);
+        CHECKS.faulty("a=1_;", 1, 3);
+        CHECKS.faulty("a=1b;", 1, 3);
+        CHECKS.faulty("a=1>2;", 1, 3);
+        CHECKS.faulty("a=1;\t", 1, 4);
+        CHECKS.faulty("a=1;\r\n", 1, 4);
+        CHECKS.faulty("a=1;\u00e9=1;", 1, 4);
+        CHECKS.faulty("a=\u00ff;", 1, 2);
+        CHECKS.faulty("a=1;\u0000", 1, 4);
     }
 
     private static void faultsOfTooMuch() {
-        faulty("abcdefghijklmnop=1;", 0, -1);
-        faulty("abcdefghijklmnopq=1;", 2, 0);
-        faulty("a=abcdefghijklmnopq", 2, 2);
-        faulty("call abcdefghijklmn_123();", 2, 5);
-        faulty("a abcdefghijklmnopq", 1, 2);
-        faulty("a=123456;", 0, -1);
-        faulty("a=1234567;", 2, 2);
-        faulty("a=00000000000;", 2, 2);
-        faulty("a 1234567;", 1, 2);
-        faulty("1234567;", 1, 0);
-        faulty("a=((((((1))))));", 0, -1);
-        faulty("a=(((((((1)))))));", 2, 8);
-        faulty("a=1+(((((((1", 2, 10);
-        faulty("call f((((((1))))));", 0, -1);
-        faulty("call f(((((((1)))))));", 2, 12);
+        CHECKS.faulty("abcdefghijklmnop=1;", 0, -1);
+        CHECKS.faulty("abcdefghijklmnopq=1;", 2, 0);
+        CHECKS.faulty("a=abcdefghijklmnopq", 2, 2);
+        CHECKS.faulty("call abcdefghijklmn_123();", 2, 5);
+        CHECKS.faulty("a abcdefghijklmnopq", 1, 2);
+        CHECKS.faulty("a=123456;", 0, -1);
+        CHECKS.faulty("a=1234567;", 2, 2);
+        CHECKS.faulty("a=00000000000;", 2, 2);
+        CHECKS.faulty("a 1234567;", 1, 2);
+        CHECKS.faulty("1234567;", 1, 0);
+        CHECKS.faulty("a=((((((1))))));", 0, -1);
+        CHECKS.faulty("a=(((((((1)))))));", 2, 8);
+        CHECKS.faulty("a=1+(((((((1", 2, 10);
+        CHECKS.faulty("call f((((((1))))));", 0, -1);
+        CHECKS.faulty("call f(((((((1)))))));", 2, 12);
         String five = Checks.repeat("if a{", 5);
-        faulty(five + "call f();" + "}}}}}", 0, -1);
-        faulty(five + "call f((1));" + "}}}}}", 2, 32);
-        faulty(five + "if (a){}}}}}}", 0, -1);
-        faulty(five + "if a{}}}}}}", 0, -1);
-        faulty(five + "while a{if b{", 2, 37);
-        faulty(five + "while a{call f();", 2, 39);
-        faulty(five + "while a{b=(1);", 2, 35);
-        faulty(five + "if a{}else{b=1;c=(", 2, 42);
+        CHECKS.faulty(five + "call f();" + "}}}}}", 0, -1);
+        CHECKS.faulty(five + "call f((1));" + "}}}}}", 2, 32);
+        CHECKS.faulty(five + "if (a){}}}}}}", 0, -1);
+        CHECKS.faulty(five + "if a{}}}}}}", 0, -1);
+        CHECKS.faulty(five + "while a{if b{", 2, 37);
+        CHECKS.faulty(five + "while a{call f();", 2, 39);
+        CHECKS.faulty(five + "while a{b=(1);", 2, 35);
+        CHECKS.faulty(five + "if a{}else{b=1;c=(", 2, 42);
         String fifty = Checks.repeat("a=1;", 50);
-        faulty(fifty, 0, -1);
-        faulty(fifty + "  \n", 0, -1);
-        faulty(fifty + " a", 2, 201);
-        faulty(fifty + "1", 1, 200);
-        faulty(fifty + "$", 1, 200);
-        faulty(Checks.repeat("a=1;", 49) + "a=1+ 1;", 2, 201);
-        faulty(Checks.repeat("a=1;", 49) + "a=1+", 1, 200);
-        faulty(Checks.repeat("a=1;", 49) + "a=1+;", 1, 200);
+        CHECKS.faulty(fifty, 0, -1);
+        CHECKS.faulty(fifty + "  \n", 0, -1);
+        CHECKS.faulty(fifty + " a", 2, 201);
+        CHECKS.faulty(fifty + "1", 1, 200);
+        CHECKS.faulty(fifty + "$", 1, 200);
+        CHECKS.faulty(Checks.repeat("a=1;", 49) + "a=1+ 1;", 2, 201);
+        CHECKS.faulty(Checks.repeat("a=1;", 49) + "a=1+", 1, 200);
+        CHECKS.faulty(Checks.repeat("a=1;", 49) + "a=1+;", 1, 200);
     }
 
     private static void fault() {
-        HouseManner x = with("a=1;");
+        HouseManner x = CHECKS.with("a=1;");
         due("fault(2)", NO_SUCH, () -> x.fault(2));
         due("fault(-1)", NO_SUCH, () -> x.fault(-1));
         Checks.put(x, 0, 0, "a=1=");
@@ -225,7 +208,7 @@ public final class PromisesTest {
     }
 
     private static void drop() {
-        HouseManner x = with("a=1;", "b=2;");
+        HouseManner x = CHECKS.with("a=1;", "b=2;");
         due("drop(-1)", ILLEGAL, () -> x.drop(-1));
         due("drop(12)", ILLEGAL, () -> x.drop(12));
         due("drop(0)", true, () -> x.drop(0));
@@ -253,35 +236,26 @@ public final class PromisesTest {
         due("text 6", NO_SUCH, () -> x.about(6, 0));
     }
 
-    private static void gapsAre(String text, int what, int... want) {
-        HouseManner x = with(text);
-        for (int i = 0; i < want.length; i++) {
-            int gap = i;
-            due("gap " + i + " of " + text, want[i], () -> x.gap(0, gap, what));
-        }
-        due("no more gaps of " + text, NO_SUCH, () -> x.gap(0, want.length, what));
-    }
-
     private static void gapKinds() {
-        gapsAre("a=b+1;", 0, 11, 12, 13, 14, 0);
-        gapsAre("a=(b)<(1-2);c=1;", 0, 11, 10, 8, 9, 13, 10, 8, 13, 14, 9, 0, 1, 11, 12, 0);
-        gapsAre("a=((1));", 0, 11, 10, 8, 8, 9, 9, 0);
-        gapsAre("call f(a,b);", 0, 15, 10, 8, 6, 7, 9, 0);
-        gapsAre("call f();", 0, 15, 10, 8, 0);
-        gapsAre("if a{}else{b=1;}", 0, 15, 5, 2, 4, 5, 2, 11, 12, 0, 1);
-        gapsAre("while(a){if 1{}}", 0, 10, 8, 9, 5, 2, 15, 5, 2, 3);
-        gapsAre("if a{}b=1;", 0, 15, 5, 2, 4, 11, 12, 0);
-        gapsAre("call f((1),(2));", 0, 15, 10, 8, 8, 9, 6, 7, 8, 9, 9, 0);
-        gapsAre("", 0);
+        CHECKS.gapsAre("a=b+1;", 0, 11, 12, 13, 14, 0);
+        CHECKS.gapsAre("a=(b)<(1-2);c=1;", 0, 11, 10, 8, 9, 13, 10, 8, 13, 14, 9, 0, 1, 11, 12, 0);
+        CHECKS.gapsAre("a=((1));", 0, 11, 10, 8, 8, 9, 9, 0);
+        CHECKS.gapsAre("call f(a,b);", 0, 15, 10, 8, 6, 7, 9, 0);
+        CHECKS.gapsAre("call f();", 0, 15, 10, 8, 0);
+        CHECKS.gapsAre("if a{}else{b=1;}", 0, 15, 5, 2, 4, 5, 2, 11, 12, 0, 1);
+        CHECKS.gapsAre("while(a){if 1{}}", 0, 10, 8, 9, 5, 2, 15, 5, 2, 3);
+        CHECKS.gapsAre("if a{}b=1;", 0, 15, 5, 2, 4, 11, 12, 0);
+        CHECKS.gapsAre("call f((1),(2));", 0, 15, 10, 8, 8, 9, 6, 7, 8, 9, 9, 0);
+        CHECKS.gapsAre("", 0);
     }
 
     private static void gapChoices() {
-        gapsAre("a =  1\n;\n b\n\n=\n1;", 1, 1, 3, 2, 3, 3, 2, 0);
-        gapsAre("if a{\n  b=1;\nc=2;\n}\n  d\n=1;", 1, 1, 0, 2, 0, 0, 0, 3, 0, 0, 0, 2, 3, 2, 0, 0);
-        gapsAre("if a{if b{\n   c=1;\n    d\n    =1;\n  }\n}", 1, 1, 0, 0, 1, 0, 3, 0, 0, 0, 2, 2, 0, 0, 2, 2);
-        gapsAre("if a\n{ \n}", 1, 1, 2, 3);
-        gapsAre("if a{\n\n b=\n \n1;}", 1, 1, 0, 3, 0, 3, 0, 0);
-        gapsAre("if a{b=1;  \nc=1;}", 1, 1, 0, 0, 0, 0, 0, 3, 0, 0, 0, 0);
+        CHECKS.gapsAre("a =  1\n;\n b\n\n=\n1;", 1, 1, 3, 2, 3, 3, 2, 0);
+        CHECKS.gapsAre("if a{\n  b=1;\nc=2;\n}\n  d\n=1;", 1, 1, 0, 2, 0, 0, 0, 3, 0, 0, 0, 2, 3, 2, 0, 0);
+        CHECKS.gapsAre("if a{if b{\n   c=1;\n    d\n    =1;\n  }\n}", 1, 1, 0, 0, 1, 0, 3, 0, 0, 0, 2, 2, 0, 0, 2, 2);
+        CHECKS.gapsAre("if a\n{ \n}", 1, 1, 2, 3);
+        CHECKS.gapsAre("if a{\n\n b=\n \n1;}", 1, 1, 0, 3, 0, 3, 0, 0);
+        CHECKS.gapsAre("if a{b=1;  \nc=1;}", 1, 1, 0, 0, 0, 0, 0, 3, 0, 0, 0, 0);
     }
 
     private static void gapTests() {
@@ -311,7 +285,7 @@ public final class PromisesTest {
     }
 
     private static void seen() {
-        HouseManner x = with("a=1;b =2;c\n= 3;", "d = 4;", "e  =5;");
+        HouseManner x = CHECKS.with("a=1;b =2;c\n= 3;", "d = 4;", "e  =5;");
         due("seen 11, 0", 1, () -> x.seen(11, 0));
         due("seen 11, 1", 2, () -> x.seen(11, 1));
         due("seen 11, 2", 1, () -> x.seen(11, 2));
@@ -338,72 +312,65 @@ public final class PromisesTest {
         due("nothing changed 1", 9, () -> x.price(1, 0));
     }
 
-    private static void habitIs(HouseManner x, int kind, int... want) {
-        for (int what = 0; what < want.length; what++) {
-            int w = what;
-            due("habit(" + kind + ", " + what + ")", want[what], () -> x.habit(kind, w));
-        }
-    }
-
     private static void find() {
         HouseManner x = new HouseManner();
         due("find without texts", 0, () -> x.find());
-        habitIs(x, 0, 0, -1, -1, -1, -1, 0, 0, 0);
+        CHECKS.habitIs(x, 0, 0, -1, -1, -1, -1, 0, 0, 0);
         Checks.put(x, 0, 0, "a=1;b=1;c=1;");
         Checks.put(x, 1, 1, "a =1;b =1;c =1;");
         due("a test is dearer", 5, () -> x.find());
-        habitIs(x, 11, 1, 6, 0, -1, -1, 1, 5, 0);
+        CHECKS.habitIs(x, 11, 1, 6, 0, -1, -1, 1, 5, 0);
         x.price(0, 6);
         due("a test costs as much", 6, () -> x.find());
-        habitIs(x, 11, 0, -1, -1, -1, -1, 0, 6, 3);
+        CHECKS.habitIs(x, 11, 0, -1, -1, -1, -1, 0, 6, 3);
         Checks.put(x, 2, 2, "a\n=1;b\n=1;c\n=1;");
         x.price(0, 1);
         due("two tests", 2, () -> x.find());
-        habitIs(x, 11, 2, 6, 0, 7, 1, 2, 2, 0);
+        CHECKS.habitIs(x, 11, 2, 6, 0, 7, 1, 2, 2, 0);
         x.price(0, 0);
         due("tests for nothing", 0, () -> x.find());
-        habitIs(x, 11, 2, 6, 0, 7, 1, 2, 0, 0);
-        habitIs(x, 12, 0, -1, -1, -1, -1, 0, 0, 0);
+        CHECKS.habitIs(x, 11, 2, 6, 0, 7, 1, 2, 0, 0);
+        CHECKS.habitIs(x, 12, 0, -1, -1, -1, -1, 0, 0, 0);
         x.price(1, 0);
         due("exceptions for nothing", 0, () -> x.find());
-        habitIs(x, 11, 0, -1, -1, -1, -1, 0, 0, 6);
+        CHECKS.habitIs(x, 11, 0, -1, -1, -1, -1, 0, 0, 6);
     }
 
     private static void findAmongLikeOnes() {
-        HouseManner x = with("if a{}while b{}call c();");
+        HouseManner x = CHECKS.with("if a{}while b{}call c();");
         due("kept apart", 0, () -> x.find());
-        habitIs(x, 15, 0, -1, -1, -1, -1, 0, 0, 0);
-        HouseManner y = with("a\n=1;b\n=1;", "if c{d =1;if e{f=1;g=1;}}");
+        CHECKS.habitIs(x, 15, 0, -1, -1, -1, -1, 0, 0, 0);
+        HouseManner y = CHECKS.with("a\n=1;b\n=1;", "if c{d =1;if e{f=1;g=1;}}");
         y.price(0, 1);
         due("by depth", 2, () -> y.find());
-        habitIs(y, 11, 2, 0, 2, 1, 0, 1, 2, 0);
-        HouseManner z = with("a  =1;");
+        CHECKS.habitIs(y, 11, 2, 0, 2, 1, 0, 1, 2, 0);
+        HouseManner z = CHECKS.with("a  =1;");
         due("all else is never told", 2, () -> z.find());
-        habitIs(z, 11, 0, -1, -1, -1, -1, 0, 2, 1);
-        HouseManner v = with("a=1;", "b =1;", "c\n=1;");
+        CHECKS.habitIs(z, 11, 0, -1, -1, -1, -1, 0, 2, 1);
+        HouseManner v = CHECKS.with("a=1;", "b =1;", "c\n=1;");
         due("all as many", 4, () -> v.find());
-        habitIs(v, 11, 0, -1, -1, -1, -1, 0, 4, 2);
+        CHECKS.habitIs(v, 11, 0, -1, -1, -1, -1, 0, 4, 2);
     }
 
     private static void habit() {
-        HouseManner x = with("a =1;");
+        HouseManner x = CHECKS.with("a =1;");
         due("habit without a style", -1, () -> x.habit(15, 7));
         due("kind -1", ILLEGAL, () -> x.habit(-1, 0));
         due("kind 16", ILLEGAL, () -> x.habit(16, 0));
         due("what -1", ILLEGAL, () -> x.habit(0, -1));
         due("what 8", ILLEGAL, () -> x.habit(0, 8));
         x.find();
-        habitIs(x, 11, 0, -1, -1, -1, -1, 1, 0, 0);
+        CHECKS.habitIs(x, 11, 0, -1, -1, -1, -1, 1, 0, 0);
         Checks.put(x, 1, 0, "a=1;b=1;");
         x.price(1, 50);
-        habitIs(x, 11, 0, -1, -1, -1, -1, 1, 0, 0);
+        CHECKS.habitIs(x, 11, 0, -1, -1, -1, -1, 1, 0, 0);
         x.drop(0);
-        habitIs(x, 11, 0, -1, -1, -1, -1, 1, 0, 0);
+        CHECKS.habitIs(x, 11, 0, -1, -1, -1, -1, 1, 0, 0);
         due("what 8 with a style", ILLEGAL, () -> x.habit(0, 8));
     }
 
     private static void exception() {
-        HouseManner x = with("a =1;b=1;", "if a{}if  b{}");
+        HouseManner x = CHECKS.with("a =1;b=1;", "if a{}if  b{}");
         due("without a style", -1, () -> x.exception(0, -1));
         due("without a style, i 0", -1, () -> x.exception(0, 0));
         due("without a style, i -2", ILLEGAL, () -> x.exception(0, -2));
@@ -429,7 +396,7 @@ public final class PromisesTest {
 
     private static void lay() {
         String wild = "  if(x)\n{y=\n1;}call  z( 1 ,2 ) ;if 1{}  ";
-        HouseManner x = with("if a {\n  b = 1;\n  while c {\n    call d(1, 2);\n  }\n}\ne = (f - 2);", wild);
+        HouseManner x = CHECKS.with("if a {\n  b = 1;\n  while c {\n    call d(1, 2);\n  }\n}\ne = (f - 2);", wild);
         due("lay without a style", -1, () -> x.lay(1));
         due("turn", wild.length(), () -> x.turn(1, 0));
         due("lay without a style again", -1, () -> x.lay(1));
@@ -485,7 +452,7 @@ public final class PromisesTest {
     }
 
     private static void turned(String text, int make, String want) {
-        HouseManner x = with(text);
+        HouseManner x = CHECKS.with(text);
         due("turn " + text + " to " + make, want.length(), () -> x.turn(0, make));
         due("turned " + text + " to " + make, want, () -> Checks.out(x));
     }
@@ -506,7 +473,7 @@ public final class PromisesTest {
         turned(" \n", 1, " \n");
         turned("abcdefgH=1;a=aBCDEFGH;", 0, "abcdefg_h=1;a=a_b_c_d_e_f_g_h;");
         turned("abcdefghijklmnO=1;", 0, "abcdefghijklmn_o=1;");
-        HouseManner x = with("a=1;");
+        HouseManner x = CHECKS.with("a=1;");
         due("make -1", ILLEGAL, () -> x.turn(0, -1));
         due("make 2", ILLEGAL, () -> x.turn(0, 2));
         due("no text", NO_SUCH, () -> x.turn(1, 0));
@@ -515,7 +482,7 @@ public final class PromisesTest {
     }
 
     private static void turnFails(String text, int make) {
-        HouseManner x = with("a=1;", text);
+        HouseManner x = CHECKS.with("a=1;", text);
         due("turn", 4, () -> x.turn(0, 0));
         due("turn " + text + " to " + make, -1, () -> x.turn(1, make));
         due("OUT is empty", 0, () -> x.told(-1));
@@ -545,22 +512,22 @@ public final class PromisesTest {
     }
 
     private static void house() {
-        due("no names of two parts", -1, () -> with("a=b+C+d1+e_;").house());
-        due("low lines", 0, () -> with("a_b=1;", "c=a_b+cD;").house());
-        due("great letters", 1, () -> with("aB=aB+a_b;").house());
-        due("as many", -1, () -> with("aB=a_b;").house());
-        due("neither", -1, () -> with("Ab_c=a__b+AbC+a_B+a_b_;").house());
-        due("calls, too", 1, () -> with("call aB(cD,e_f);").house());
-        due("digits", 0, () -> with("row_2=row2;").house());
-        due("of two different makes", 1, () -> with("a_bC=dE;").house());
-        HouseManner x = with("aB=1;", "c_d=1;");
+        due("no names of two parts", -1, () -> CHECKS.with("a=b+C+d1+e_;").house());
+        due("low lines", 0, () -> CHECKS.with("a_b=1;", "c=a_b+cD;").house());
+        due("great letters", 1, () -> CHECKS.with("aB=aB+a_b;").house());
+        due("as many", -1, () -> CHECKS.with("aB=a_b;").house());
+        due("neither", -1, () -> CHECKS.with("Ab_c=a__b+AbC+a_B+a_b_;").house());
+        due("calls, too", 1, () -> CHECKS.with("call aB(cD,e_f);").house());
+        due("digits", 0, () -> CHECKS.with("row_2=row2;").house());
+        due("of two different makes", 1, () -> CHECKS.with("a_bC=dE;").house());
+        HouseManner x = CHECKS.with("aB=1;", "c_d=1;");
         due("of all texts", -1, () -> x.house());
         x.drop(0);
         due("not of a dropped one", 0, () -> x.house());
     }
 
     private static void told() {
-        HouseManner x = with("a=1;");
+        HouseManner x = CHECKS.with("a=1;");
         x.turn(0, 0);
         due("how many", 4, () -> x.told(-1));
         due("the first", 97, () -> x.told(0));
@@ -597,7 +564,7 @@ public final class PromisesTest {
     }
 
     private static void takeOfWhatChanged() {
-        HouseManner x = with("a = 1;", "b = 2;");
+        HouseManner x = CHECKS.with("a = 1;", "b = 2;");
         x.find();
         due("nothing yet", false, () -> x.take(0));
         x.lay(0);
@@ -627,7 +594,7 @@ public final class PromisesTest {
     }
 
     private static void alike() {
-        HouseManner x = with("a=1;b=2;", " a = 1 ;\n\nb\n=2;", "a=1;b=3;", "a=1;", "A=1;", "aa=1;", "");
+        HouseManner x = CHECKS.with("a=1;b=2;", " a = 1 ;\n\nb\n=2;", "a=1;b=3;", "a=1;", "A=1;", "aa=1;", "");
         int[][] same = {{0, 1}, {1, 0}, {0, 0}, {6, 6}};
         int[][] unlike = {{0, 2}, {0, 3}, {3, 0}, {3, 4}, {3, 5}, {5, 3}, {6, 3}};
         for (int[] two : same) {
