@@ -454,7 +454,7 @@ public final class PromisesTest {
     private static void turned(String text, int make, String want) {
         HouseManner x = CHECKS.with(text);
         due("turn " + text + " to " + make, want.length(), () -> x.turn(0, make));
-        due("turned " + text + " to " + make, want, () -> Checks.out(x));
+        due("turned " + text + " to " + make, Checks.bothEnds(want), () -> Checks.outEnds(x));
     }
 
     private static void turn() {
