@@ -13,6 +13,8 @@ public final class EdgesOfNamesTest {
         CHECKS.sentence("all else, blanks too, as it is", EdgesOfNamesTest::allElseStays);
         CHECKS.sentence("It can't be, if two unlike NAMES would be alike", EdgesOfNamesTest::alikeNames);
         CHECKS.sentence("It can't be, if .. one would be a KEYWORD", EdgesOfNamesTest::keywords);
+        CHECKS.sentence("It can't be, if .. one would .. have no PARTS, begin with a digit",
+                EdgesOfNamesTest::leastParts);
         CHECKS.sentence("It can't be, if .. one would .. be longer than 16", EdgesOfNamesTest::longNames);
         CHECKS.sentence("It can't be, if .. the text longer than 800", EdgesOfNamesTest::longTexts);
         CHECKS.sentence("which of both more NAMES have", EdgesOfNamesTest::oneMore);
@@ -145,6 +147,15 @@ public final class EdgesOfNamesTest {
             made(word + "1", word + "1", word + "1");
         }
         made("IF", "i_f", "iF");
+    }
+
+    /** A NAME begins with a letter, so none comes to either; these come nearest, and can be turned. */
+    private static void leastParts() {
+        made("a_", "a", "a");
+        made("Z_______________", "z", "z");
+        made("a_1", "a_1", "a1");
+        made("A__9_", "a_9", "a9");
+        made("b0", "b0", "b0");
     }
 
     private static void longNames() {
