@@ -8,7 +8,7 @@ import java.util.List;
 public final class AllShortTest {
     private static final String[] TOKENS = {"a", "b_C", "1", "if", "else", "while", "call",
         "=", "+", "<", "(", ")", "{", "}", ",", ";", "?"};
-    // What stands between all TOKENS of a text: one text has each of the CHOICES somewhere.
+    // What stands between all TOKENS of a text; with each DEPTH one of them is a BREAK.
     private static final String[] BETWEEN = {" ", "\n", "\n  ", "\n    ", "  ", ""};
     private static final String FIRST_SIGNS = "ifIF";
     private static final String SIGNS = "ifIF_2";
